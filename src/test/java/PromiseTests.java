@@ -19,6 +19,7 @@ public final class PromiseTests {
         planFewest();
         planFirst();
         planRefusals();
+        behindTheLastMinute();
         sure();
         best();
         together();
@@ -364,16 +365,22 @@ public final class PromiseTests {
         write(x, "e09,r18;251");
         x.kitchen();
         due("11 20 times, of all kitchens", x.plan(0), STATE);
-        OneTimer far = boiling("e40,r40;601");
+    }
+
+    private static void behindTheLastMinute() {
+        OneTimer x = read("e01,r40;601");
         for (int n = 0; n < 16; n++) {
-            far.wind(60);
+            x.wind(60);
         }
-        far.wind(39);
-        far.take(0);
-        far.boil(0);
-        far.wind(1);
-        due("11 at 999", far.count(3), 999);
-        due("12 behind 999", far.sure(0, 41), 0 + 18 + 1);
+        due("9 to 999", x.wind(39), 999);
+        due("8 due behind 999", x.boil(0), 1000);
+        due("8 due behind 999", x.boil(1), 1039);
+        due("11 planned behind 999", x.plan(0), 2);
+        due("11 planned behind 999", x.plan(1), 1);
+        due("12 sure behind 999", x.sure(1, 41), 20);
+        due("13 best behind 999", x.best(1), 41);
+        due("14 together behind 999", x.together(1, 1038), NONE);
+        due("14 together behind 999", x.together(1, 1039), 999);
     }
 
     private static void sure() {
@@ -495,13 +502,11 @@ public final class PromiseTests {
     private static void evenings() {
         OneTimer x = read("s30,s30;204");
         due("18 seed by 1", x.evenings(1, 0, 2), 1406932606);
-        due("18 seed by 30", x.evenings(30, Integer.MAX_VALUE, 2) >= 0 ? 1 : 0, 1);
+        due("18 seed by 5, of the most", x.evenings(5, Integer.MAX_VALUE, 2), 834541773);
         x.boil(0);
         x.wind(20);
         long before = x.digest();
-        int good = x.evenings(30, 5, 0);
-        int ruined = x.evenings(30, 5, 1);
-        due("18 no more than pots", good + ruined <= 2 ? 1 : 0, 1);
+        x.evenings(30, 5, 0);
         due("18 changes nothing", x.digest(), before);
         due("18 times 0", x.evenings(0, 0, 0), OUTSIDE);
         due("18 times 31", x.evenings(31, 0, 0), OUTSIDE);
@@ -510,10 +515,18 @@ public final class PromiseTests {
         due("18 what 3", x.evenings(1, 0, 3), OUTSIDE);
         due("18 outside ahead of state", new OneTimer().evenings(31, 0, 0), OUTSIDE);
         due("18 state", new OneTimer().evenings(30, 0, 2), STATE);
-        // A spring of one: the second ring is at minute 2, so one that wants 02 is good by it alone.
+        // By a spring of one it rings at each minute, whatever is drawn.
         OneTimer one = read("p01,s01;011");
         due("18 first ring is good", one.evenings(1, 3, 0), 1);
         due("18 first ring ruins none", one.evenings(1, 3, 1), 0);
+        OneTimer late = read("p01,p01;011");
+        due("18 one at the first ring is good", late.evenings(30, 3, 0), 1);
+        due("18 the other is ruined", late.evenings(30, 3, 1), 1);
+        OneTimer raw = read("s40,s40;011");
+        due("18 raw is not good", raw.evenings(30, 3, 0), 0);
+        due("18 raw is not ruined", raw.evenings(30, 3, 1), 0);
+        OneTimer drawn = read("e09,r18,b12;251");
+        due("18 ruined by the draws", drawn.evenings(20, 77, 1), 3);
     }
 
     private static void image() {
