@@ -502,12 +502,10 @@ public final class OneTimer {
             super(wants);
         }
 
-        @Override
         int kind() {
             return 1;
         }
 
-        @Override
         int keeps() {
             return 1;
         }
@@ -518,12 +516,10 @@ public final class OneTimer {
             super(wants);
         }
 
-        @Override
         int kind() {
             return 2;
         }
 
-        @Override
         int keeps() {
             return 3;
         }
@@ -534,12 +530,10 @@ public final class OneTimer {
             super(wants);
         }
 
-        @Override
         int kind() {
             return 3;
         }
 
-        @Override
         int keeps() {
             return 9;
         }
@@ -550,12 +544,10 @@ public final class OneTimer {
             super(wants);
         }
 
-        @Override
         int kind() {
             return 4;
         }
 
-        @Override
         int keeps() {
             return 2 * super.keeps();
         }
