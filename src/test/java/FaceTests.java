@@ -16,7 +16,7 @@ public final class FaceTests {
     private static final String[] NOT_IN_SOURCE = {
         "\\bimport\\b", "\\bpackage\\b", "->", "::", "\\btry\\b", "\\bcatch\\b", "\\bfinally\\b", "\\bthrow\\b",
         "\\bsynchronized\\b", "\\bassert\\b", "\\bdouble\\b", "\\bfloat\\b", "\\bSystem\\b", "\\bhashCode\\b",
-        "\\btoString\\b", "\\w+Exact\\b", "[^\\x00-\\x7f]"};
+        "\\btoString\\b", "\\w+Exact\\b", "@\\w", "[^\\x00-\\x7f]"};
     private static int wrong = 0;
 
     public static void main(String[] args) throws Exception {
@@ -87,6 +87,10 @@ public final class FaceTests {
             }
         }
         check(OneTimer.class.getDeclaredClasses().length <= 12, "at most twelve classes");
+        for (Class<?> inside : OneTimer.class.getDeclaredClasses()) {
+            int modifiers = inside.getModifiers();
+            check(Modifier.isStatic(modifiers) && !Modifier.isPublic(modifiers), "static, not public: " + inside);
+        }
     }
 
     private static void source() throws Exception {

@@ -1,8 +1,6 @@
 /** For each promise of the document ordinary inputs, its edges and wrong inputs, with the answers written out. */
 public final class PromiseTests {
     private static final int NONE = -1, UNKNOWN = -101, OUTSIDE = -102, STATE = -103, FULL = -104;
-    private static int wrong = 0;
-    private static int asked = 0;
 
     public static void main(String[] args) {
         newObject();
@@ -32,18 +30,11 @@ public final class PromiseTests {
         count();
         digest();
         refusalsChangeNothing();
-        System.out.println(asked + " answers asked, " + wrong + " are not as due");
-        if (wrong != 0) {
-            System.exit(1);
-        }
+        Asked.end();
     }
 
     private static void due(String call, long got, long want) {
-        asked++;
-        if (got != want) {
-            wrong++;
-            System.out.println(call + " answered " + got + ", due is " + want);
-        }
+        Asked.due(call, got, want);
     }
 
     private static OneTimer written(String text) {
