@@ -4,7 +4,7 @@
  */
 public final class BoundaryTests {
     private static final String DIGITS = "0123456789";
-    private static int sentences = 0;
+    private static int cases = 0;
 
     public static void main(String[] args) {
         lettersOfAKitchen();
@@ -35,12 +35,12 @@ public final class BoundaryTests {
         imageAndRestore();
         count();
         digest();
-        System.out.println(sentences + " sentences");
+        System.out.println(cases + " cases by the sentences of the document");
         Asked.end();
     }
 
     private static void holds(String sentence, String... runs) {
-        sentences++;
+        cases++;
         for (String run : runs) {
             Script.run(sentence, run);
         }
@@ -65,7 +65,7 @@ public final class BoundaryTests {
             "<p01,p02,p03,p04;601> fault()=19 kitchen()=4 about(3,1)=4",
             "<p01,p02,p03,p04,> fault()=15 kitchen()=STATE", "<p01,p02,p03,p04,p05;6> fault()=15 kitchen()=STATE");
         for (String ahead : new String[] {"", "p01,", "p01,e40,", "p01,e40,r18,"}) {
-            sentences++;
+            cases++;
             next(ahead, "persb");
             for (char kind : "persb".toCharArray()) {
                 next(ahead + kind, "01234");
@@ -81,7 +81,7 @@ public final class BoundaryTests {
         next("p01,e40,r18", ",;");
         next("p01,e40,r18,b12", ";");
         for (String ahead : new String[] {"p01,e40;", "p01,e40,r18;", "p01,e40,r18,b12;"}) {
-            sentences++;
+            cases++;
             next(ahead, "0123456");
             next(ahead + "0", "123456789");
             for (int tens = 1; tens <= 5; tens++) {
@@ -100,7 +100,7 @@ public final class BoundaryTests {
     }
 
     private static void numbersOfAKitchen() {
-        sentences += 3;
+        cases += 3;
         for (int n = 0; n <= 99; n++) {
             String answer = n >= 1 && n <= 40 ? "kitchen()=4 about(0,1)=" + n : "kitchen()=STATE about(0,1)=UNKNOWN";
             Script.run("the MINUTES it WANTS (01 to 40)", "<s" + two(n) + ",p01,p01,p01;601> " + answer);
@@ -599,7 +599,7 @@ public final class BoundaryTests {
     }
 
     private static void digests(String sentence, String steps, long... numbers) {
-        sentences++;
+        cases++;
         long h = 929;
         for (long number : numbers) {
             h = 31 * h + number;
