@@ -738,7 +738,7 @@ public final class OneTimer {
         }
 
         void add(int untilDue, int keeps) {
-            if (size >= MOST_POTS) {
+            if (size < 0 || size >= MOST_POTS) {
                 return;
             }
             opens[size] = untilDue;
@@ -758,13 +758,29 @@ public final class OneTimer {
             return (1 << size) - 1;
         }
 
+        private static boolean isSet(int left) {
+            return left >= 0 && left < SETS;
+        }
+
+        private static boolean isInRow(int at, int left) {
+            return at >= 0 && at <= REACH && isSet(left);
+        }
+
+        private int fewestAt(int at, int left) {
+            return isInRow(at, left) ? fewest[at * SETS + left] : NEVER;
+        }
+
+        private int fewestAfterTaking(int left) {
+            return isSet(left) ? afterTaking[left] : NEVER;
+        }
+
         private void fillMinute(int at) {
             int all = allPots();
             int good = goodAt(at);
-            for (int left = 0; left <= all; left++) {
+            for (int left = 0; left <= all && isSet(left); left++) {
                 afterTaking[left] = byWinding(at, left);
             }
-            for (int left = 0; left <= all; left++) {
+            for (int left = 0; left <= all && isInRow(at, left); left++) {
                 fewest[at * SETS + left] = byTaking(left, left & good, at == 0 ? freeNow : hands);
             }
         }
@@ -785,7 +801,7 @@ public final class OneTimer {
             }
             int few = NEVER;
             for (int ring = at + 1; ring <= at + spring && ring <= last; ring++) {
-                few = Math.min(few, fewest[ring * SETS + left]);
+                few = Math.min(few, fewestAt(ring, left));
             }
             return few == NEVER ? NEVER : few + 1;
         }
@@ -794,7 +810,7 @@ public final class OneTimer {
             int few = NEVER;
             for (int takes = 0; takes <= good; takes++) {
                 if (canTake(takes, good, free)) {
-                    few = Math.min(few, afterTaking[left & ~takes]);
+                    few = Math.min(few, fewestAfterTaking(left & ~takes));
                 }
             }
             return few;
@@ -805,7 +821,7 @@ public final class OneTimer {
         }
 
         int howFew() {
-            int few = fewest[allPots()];
+            int few = fewestAt(0, allPots());
             return few == NEVER ? NONE : few;
         }
 
@@ -825,7 +841,7 @@ public final class OneTimer {
         private boolean leadsOn(int ring, int few) {
             int good = goodAt(0);
             for (int takes = 0; takes <= good; takes++) {
-                if (canTake(takes, good, freeNow) && fewest[ring * SETS + (allPots() & ~takes)] == few) {
+                if (canTake(takes, good, freeNow) && fewestAt(ring, allPots() & ~takes) == few) {
                     return true;
                 }
             }

@@ -3,8 +3,12 @@ import java.lang.reflect.Method;
 import java.lang.reflect.Modifier;
 import java.nio.file.Files;
 import java.nio.file.Path;
+import java.util.ArrayList;
+import java.util.List;
 import java.util.Set;
 import java.util.TreeSet;
+import java.util.regex.Matcher;
+import java.util.regex.Pattern;
 
 /** The public face is the document's and no more, the source keeps to LANGUAGE.md, and calls make few objects. */
 public final class FaceTests {
@@ -17,13 +21,21 @@ public final class FaceTests {
         "\\bimport\\b", "\\bpackage\\b", "->", "::", "\\btry\\b", "\\bcatch\\b", "\\bfinally\\b", "\\bthrow\\b",
         "\\bsynchronized\\b", "\\bassert\\b", "\\bdouble\\b", "\\bfloat\\b", "\\bSystem\\b", "\\bhashCode\\b",
         "\\btoString\\b", "\\w+Exact\\b", "@\\w", "[^\\x00-\\x7f]"};
+    private static final Pattern HEAD =
+        Pattern.compile("(?:(?:public|private|static|final) )*[\\w\\[\\]]+ \\w+\\(.*\\) \\{");
+    private static final Pattern NO_HEAD = Pattern.compile("(if|for|while|switch|else|return|\\}) .*");
+    private static final Pattern INDEX = Pattern.compile("\\w\\[([^\\]]+)\\]");
+    private static final Pattern VARIABLE = Pattern.compile("\\b[a-z]\\w*");
+    private static final int MOST_LINES = 60, MOST_PARAMETERS = 7, MOST_FIELDS = 20;
     private static int wrong = 0;
 
     public static void main(String[] args) throws Exception {
         methods();
         fields();
         privateNames();
+        sizes();
         source();
+        indices();
         room();
         System.out.println("face: " + wrong + " wrong");
         if (wrong != 0) {
@@ -93,12 +105,84 @@ public final class FaceTests {
         }
     }
 
-    private static void source() throws Exception {
+    /** LANGUAGE.md, rule 11. */
+    private static void sizes() throws Exception {
+        List<Class<?>> classes = new ArrayList<>(List.of(OneTimer.class.getDeclaredClasses()));
+        classes.add(OneTimer.class);
+        for (Class<?> one : classes) {
+            int fields = 0;
+            for (Field field : one.getDeclaredFields()) {
+                fields += Modifier.isStatic(field.getModifiers()) ? 0 : 1;
+            }
+            check(fields <= MOST_FIELDS, "few fields, but " + one + " has " + fields);
+            for (Method method : one.getDeclaredMethods()) {
+                check(method.getParameterCount() <= MOST_PARAMETERS, "few parameters: " + method);
+            }
+        }
+        for (List<String> method : methodsOfSource()) {
+            check(method.size() <= MOST_LINES, "a short method: " + method.get(0));
+        }
+    }
+
+    private static String code() throws Exception {
         String path = System.getProperty("onetimer.source", "src/main/java/OneTimer.java");
         String text = Files.readString(Path.of(path));
-        String code = text.replaceAll("(?s)/\\*.*?\\*/", "").replaceAll("//[^\n]*", "");
+        return text.replaceAll("(?s)/\\*.*?\\*/", "").replaceAll("//[^\n]*", "");
+    }
+
+    private static void source() throws Exception {
+        String code = code();
         for (String pattern : NOT_IN_SOURCE) {
-            check(!java.util.regex.Pattern.compile(pattern).matcher(code).find(), "no " + pattern + " in the source");
+            check(!Pattern.compile(pattern).matcher(code).find(), "no " + pattern + " in the source");
+        }
+    }
+
+    /** The lines of each method, from its head to the brace that stands below the head. */
+    private static List<List<String>> methodsOfSource() throws Exception {
+        List<List<String>> methods = new ArrayList<>();
+        List<String> open = null;
+        String end = "";
+        for (String line : code().split("\n")) {
+            String bare = line.strip();
+            if (open == null && HEAD.matcher(bare).matches() && !NO_HEAD.matcher(bare).matches()) {
+                open = new ArrayList<>();
+                end = line.substring(0, line.indexOf(bare)) + "}";
+            }
+            if (open != null) {
+                open.add(bare);
+                if (line.equals(end)) {
+                    methods.add(open);
+                    open = null;
+                }
+            }
+        }
+        return methods;
+    }
+
+    /** LANGUAGE.md, rule 7: an index is looked at, in the very method that uses it, before it is used. */
+    private static void indices() throws Exception {
+        int seen = 0;
+        for (List<String> method : methodsOfSource()) {
+            StringBuilder ahead = new StringBuilder();
+            for (String line : method) {
+                ahead.append(line).append('\n');
+                Matcher index = INDEX.matcher(line.replaceAll("new \\w+\\[.*", ""));
+                while (index.find()) {
+                    seen++;
+                    checkIndex(index.group(1), ahead.toString(), method.get(0));
+                }
+            }
+        }
+        check(seen >= 20, "the indices of the source are seen, but only " + seen + " were");
+    }
+
+    private static void checkIndex(String index, String ahead, String head) {
+        Matcher variable = VARIABLE.matcher(index);
+        while (variable.find()) {
+            String name = variable.group();
+            String looked = "\\b" + name + " (<|>=) |\\bis(Set|InRow)\\([^)]*\\b" + name + "\\b";
+            check(Pattern.compile(looked).matcher(ahead).find(),
+                name + " is looked at before [" + index + "] in " + head);
         }
     }
 
